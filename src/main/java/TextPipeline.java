@@ -35,7 +35,7 @@ public final class TextPipeline {
     }
 
     public void set(int c, int what, int v) throws IllegalArgumentException {
-        if (!Table.isOpen(c) || !Table.isInRange(what, v)) {
+        if (!Table.isSettable(c) || !Table.isInRange(what, v)) {
             throw new IllegalArgumentException("no such character, property or value");
         }
         table.change(c, what, v);
@@ -236,9 +236,10 @@ public final class TextPipeline {
     private static final class Table {
         static final int CHARACTERS = 75;
         static final int PARTS_LIMIT = 4;
+        static final int WEIGHTS = 3;
         static final int NOTHING = -1;
 
-        private static final int OPEN = 40;
+        private static final int SETTABLE = 40;
         private static final int LEAD = 40;
         private static final int VOWEL = 43;
         private static final int TAIL = 46;
@@ -251,11 +252,10 @@ public final class TextPipeline {
         private static final int LINE = 2;
         private static final int SIDE = 3;
         private static final int FIRST_WEIGHT = 4;
-        private static final int WEIGHTS = 3;
         private static final int[] GREATEST = {254, 9, 12, 11, 999, 999, 999};
 
-        private static final int CLOSED_LINE = 10;
-        private static final int CLOSED_WEIGHT = 1000;
+        private static final int FIXED_LINE = 10;
+        private static final int FIXED_WEIGHT = 1000;
 
         private final int[][] properties;
         private final int[] firstPart;
@@ -274,13 +274,13 @@ public final class TextPipeline {
             parts = new int[CHARACTERS * PARTS_LIMIT];
             partCount = new int[CHARACTERS];
             triedCount = new int[CHARACTERS];
-            fillClosedProperties();
+            fillFixedProperties();
             fillPartings();
             partAll();
         }
 
-        static boolean isOpen(int c) {
-            return c >= 0 && c < OPEN;
+        static boolean isSettable(int c) {
+            return c >= 0 && c < SETTABLE;
         }
 
         static boolean isInRange(int what, int v) {
@@ -288,7 +288,7 @@ public final class TextPipeline {
         }
 
         static boolean isParting(int c, int a, int b) {
-            if (!isOpen(c) || a < NOTHING || a >= c || b < NOTHING || b >= c) {
+            if (!isSettable(c) || a < NOTHING || a >= c || b < NOTHING || b >= c) {
                 return false;
             }
             return a != NOTHING || b == NOTHING;
@@ -319,7 +319,7 @@ public final class TextPipeline {
         }
 
         boolean staysSmall(int c, int a, int b) {
-            for (int i = 0; i < OPEN; i++) {
+            for (int i = 0; i < SETTABLE; i++) {
                 int first = i == c ? a : firstPart[i];
                 int second = i == c ? b : secondPart[i];
                 triedCount[i] = first == NOTHING ? 1 : triedCount[first];
@@ -378,12 +378,12 @@ public final class TextPipeline {
             return NOTHING;
         }
 
-        private void fillClosedProperties() {
-            for (int c = OPEN; c < CHARACTERS; c++) {
-                properties[LINE][c] = CLOSED_LINE;
+        private void fillFixedProperties() {
+            for (int c = SETTABLE; c < CHARACTERS; c++) {
+                properties[LINE][c] = FIXED_LINE;
             }
-            for (int c = OPEN; c < SYLLABLE; c++) {
-                properties[FIRST_WEIGHT][c] = CLOSED_WEIGHT + c;
+            for (int c = SETTABLE; c < SYLLABLE; c++) {
+                properties[FIRST_WEIGHT][c] = FIXED_WEIGHT + c;
                 for (int which = 1; which < WEIGHTS; which++) {
                     properties[FIRST_WEIGHT + which][c] = 1;
                 }
@@ -891,12 +891,11 @@ public final class TextPipeline {
 
     /** The key of a text, made of its parted form. */
     private static final class Keys {
-        private static final int WEIGHTS = 3;
-        static final int LIMIT = Forms.LIMIT * WEIGHTS + WEIGHTS - 1;
+        static final int LIMIT = Forms.LIMIT * Table.WEIGHTS + Table.WEIGHTS - 1;
 
         static void fill(Table table, Row form, Row into) {
             into.cutTo(0);
-            for (int which = 0; which < WEIGHTS; which++) {
+            for (int which = 0; which < Table.WEIGHTS; which++) {
                 if (which > 0) {
                     into.add(0);
                 }

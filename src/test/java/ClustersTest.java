@@ -30,6 +30,7 @@ public final class ClustersTest {
         picturesAreJoined();
         regionsGoInPairs();
         hangulRows();
+        hangulPairs();
         edges();
         CHECK.end();
     }
@@ -110,6 +111,22 @@ public final class ClustersTest {
         cut("110", 1, 1, 1, 2);
         cut("11", 1, 4, 0);
         cut("1", 7, 3);
+    }
+
+    /** By letters: L a lead, V a vowel, T a tail, W a syllable without a tail, Q one with it. */
+    private static void hangulPairs() {
+        String letters = "LLLVVVTT" + "WQQ".repeat(9);
+        TextPipeline x = new TextPipeline();
+        for (int i = 0; i < letters.length(); i++) {
+            for (int j = 0; j < letters.length(); j++) {
+                String pair = letters.substring(i, i + 1) + letters.charAt(j);
+                boolean end = !pair.matches("L[LVWQ]|[VW][VT]|[TQ]T");
+                Check.retype(x, 40 + i, 40 + j);
+                CHECK.due("cluster(1) of " + (40 + i) + " " + (40 + j), x.cluster(1), end);
+            }
+            Check.retype(x, 39, 40 + i, 39);
+            CHECK.due("clusters() round " + (40 + i), x.clusters(), 3);
+        }
     }
 
     private static void edges() {
