@@ -44,8 +44,8 @@ public final class ClustersTest {
     }
 
     private static void pairs() {
-        TextPipeline x = classed();
         for (int i = 0; i < KINDS.length; i++) {
+            TextPipeline x = classed();
             for (int j = 0; j < KINDS.length; j++) {
                 boolean end = PAIRS[i].charAt(j) == '1';
                 Check.retype(x, KINDS[i], KINDS[j]);
@@ -116,8 +116,8 @@ public final class ClustersTest {
     /** By letters: L a lead, V a vowel, T a tail, W a syllable without a tail, Q one with it. */
     private static void hangulPairs() {
         String letters = "LLLVVVTT" + "WQQ".repeat(9);
-        TextPipeline x = new TextPipeline();
         for (int i = 0; i < letters.length(); i++) {
+            TextPipeline x = new TextPipeline();
             for (int j = 0; j < letters.length(); j++) {
                 String pair = letters.substring(i, i + 1) + letters.charAt(j);
                 boolean end = !pair.matches("L[LVWQ]|[VW][VT]|[TQ]T");

@@ -28,7 +28,8 @@ public final class FaceTest {
     private static final String[] FORBIDDEN = {
         "^\\s*import\\b", "^\\s*package\\b", "->", "::", "\\bfinally\\b", "\\bsynchronized\\b",
         "\\bassert\\b", "\\bSystem\\.(?!arraycopy)", "\\bgetMessage\\b", "\\bstatic\\s*\\{",
-        "\\bjava\\.", "Exact\\(",
+        "\\bjava\\.", "Exact\\(", "\\btry\\b", "\\bcatch\\b", "\\bfloat\\b", "\\bdouble\\b",
+        "throw (?!new Illegal(Argument|State)Exception\\(\"|new IndexOutOfBoundsException\\(\")",
     };
 
     public static void main(String[] args) throws IOException {
@@ -95,8 +96,10 @@ public final class FaceTest {
             boolean isHidden = !Modifier.isPublic(how) && !Modifier.isProtected(how);
             CHECK.due("hidden and static: " + inside, isHidden && Modifier.isStatic(how), true);
             staticFieldsAreFinal(inside);
+            staysSmall(inside);
         }
         staticFieldsAreFinal(face);
+        staysSmall(face);
     }
 
     private static void isPrivate(Member m) {
@@ -109,6 +112,15 @@ public final class FaceTest {
                 CHECK.due("final: " + f, Modifier.isFinal(f.getModifiers()), true);
             }
         }
+    }
+
+    private static void staysSmall(Class<?> where) {
+        for (Method m : where.getDeclaredMethods()) {
+            CHECK.due("at most seven parameters: " + m, m.getParameterCount() <= 7, true);
+        }
+        long fields = Arrays.stream(where.getDeclaredFields())
+                .filter(f -> !Modifier.isStatic(f.getModifiers())).count();
+        CHECK.due("at most twenty fields: " + where, fields <= 20, true);
     }
 
     private static void forbiddenWords() throws IOException {

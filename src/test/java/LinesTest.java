@@ -44,8 +44,8 @@ public final class LinesTest {
     }
 
     private static void pairs() {
-        TextPipeline x = classed();
         for (int i = 0; i < CLASSES; i++) {
+            TextPipeline x = classed();
             for (int j = 0; j < CLASSES; j++) {
                 Check.retype(x, i, j);
                 CHECK.due("line(1) of " + i + " " + j, x.line(1), PAIRS[i].charAt(j) - '0');
@@ -68,8 +68,8 @@ public final class LinesTest {
     }
 
     private static void pairsOverSpaces() {
-        TextPipeline x = classed();
         for (int i = 0; i < CLASSES; i++) {
+            TextPipeline x = classed();
             for (int j = 0; j < CLASSES; j++) {
                 int want = rowOverSpaces(i).charAt(j) - '0';
                 Check.retype(x, i, 2, j);
@@ -113,8 +113,8 @@ public final class LinesTest {
     }
 
     private static void hangulIsSigns() {
-        TextPipeline x = classed();
         for (int c = 40; c < 75; c++) {
+            TextPipeline x = classed();
             Check.retype(x, c, c, 0, c, 9, c, 8, c, 11, c);
             String got = "";
             for (int i = 1; i <= 10; i++) {
