@@ -30,7 +30,12 @@ public final class FaceTest {
         "\\bassert\\b", "\\bSystem\\.(?!arraycopy)", "\\bgetMessage\\b", "\\bstatic\\s*\\{",
         "\\bjava\\.", "Exact\\(", "\\btry\\b", "\\bcatch\\b", "\\bfloat\\b", "\\bdouble\\b",
         "throw (?!new Illegal(Argument|State)Exception\\(\"|new IndexOutOfBoundsException\\(\")",
+        "\\binstanceof\\b", "\\bMath\\.(?!min|max)", "\\bInteger\\.(?!compare)", "\\bvar\\b",
+        "[^\\x00-\\x7f]",
     };
+    private static final Pattern METHOD = Pattern.compile("( {4}| {8})(?!.*\\bclass\\b)\\w.*\\(.*");
+    private static final Pattern CONSTRUCTOR = Pattern.compile(" +(public )?[A-Z]\\w*\\(.*");
+    private static final int LONGEST_METHOD = 60;
 
     public static void main(String[] args) throws IOException {
         Class<?> face = TextPipeline.class;
@@ -40,7 +45,9 @@ public final class FaceTest {
         publicMethods(face);
         constructors(face);
         hiddenMembers(face);
-        forbiddenWords();
+        String source = Files.readString(Path.of("src", "main", "java", "TextPipeline.java"));
+        forbiddenWords(source);
+        methods(source.split("\n"));
         CHECK.end();
     }
 
@@ -54,7 +61,14 @@ public final class FaceTest {
             }
         }
         CHECK.due("public methods", got.toString(), new TreeSet<>(Arrays.asList(FACE)).toString());
-        for (Method m : face.getDeclaredMethods()) {
+        bearNone(face, names);
+        for (Class<?> inside : face.getDeclaredClasses()) {
+            bearNone(inside, names);
+        }
+    }
+
+    private static void bearNone(Class<?> where, TreeSet<String> names) {
+        for (Method m : where.getDeclaredMethods()) {
             if (!Modifier.isPublic(m.getModifiers()) && names.contains(m.getName())) {
                 CHECK.note("a hidden method bears a public name: " + m);
             }
@@ -123,11 +137,43 @@ public final class FaceTest {
         CHECK.due("at most twenty fields: " + where, fields <= 20, true);
     }
 
-    private static void forbiddenWords() throws IOException {
-        String source = Files.readString(Path.of("src", "main", "java", "TextPipeline.java"));
+    private static void forbiddenWords(String source) {
         for (String word : FORBIDDEN) {
             boolean isThere = Pattern.compile(word, Pattern.MULTILINE).matcher(source).find();
             CHECK.due("the source has " + word, isThere, false);
+        }
+    }
+
+    /** Methods are short, and objects are made by constructors alone, but for exceptions. */
+    private static void methods(String[] lines) {
+        int found = 0;
+        for (int i = 0; i < lines.length; i++) {
+            if (METHOD.matcher(lines[i]).matches() && !lines[i].endsWith(";")) {
+                found++;
+                int end = endOf(lines, i);
+                CHECK.due("a short method: " + lines[i], end - i < LONGEST_METHOD, true);
+                if (!CONSTRUCTOR.matcher(lines[i]).matches()) {
+                    makesNothing(lines, i, end);
+                }
+                i = end;
+            }
+        }
+        CHECK.due("methods are found in the source", found > FACE.length, true);
+    }
+
+    private static int endOf(String[] lines, int start) {
+        String close = lines[start].replaceAll("\\S.*", "") + "}";
+        int end = start;
+        while (end < lines.length && !lines[end].equals(close)) {
+            end++;
+        }
+        return end;
+    }
+
+    private static void makesNothing(String[] lines, int start, int end) {
+        for (int i = start; i < end; i++) {
+            boolean isMade = lines[i].replace("throw new", "").matches(".*\\bnew\\b.*");
+            CHECK.due("an object is made by a method: " + lines[i].strip(), isMade, false);
         }
     }
 }

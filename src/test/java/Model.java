@@ -70,6 +70,10 @@ final class Model {
         return text.get(i);
     }
 
+    int length() {
+        return text.size();
+    }
+
     boolean cluster(int i) {
         place(i);
         return i == 0 || i == text.size() || clusterEnds(i);

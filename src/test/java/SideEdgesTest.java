@@ -237,7 +237,14 @@ public final class SideEdgesTest {
         run("the first one of a full text is LEFT", """
                 type 0; fill 3 39; level 39 0 = 0; wipe; type 1; fill 3 39; level 39 0 = 2
                 """);
-        run("signs and UNITs that became NUMBER, too", "text 0 3 4 3 5; levels 0 = 00000");
+        run("signs and UNITs that became NUMBER, too", """
+                text 0 3 4 3 5; levels 0 = 00000; text 0 3 4 3 1; levels 1 = 22221; text 0 3 7 3 1
+                levels 1 = 22221
+                """);
+        run("UNITs become NUMBER before NUMBER becomes LEFT", """
+                text 0 3 5; levels 1 = 222; text 0 5 3; levels 1 = 222; text 0 3 5 5 1; levels 1 = 22221
+                text 1 0 5 3 1; levels 1 = 12221
+                """);
     }
 
     private static void neutrals() {

@@ -5,6 +5,7 @@ public final class TextEdgesTest {
 
     public static void main(String[] args) {
         newObject();
+        lastCalls();
         setRanges();
         setRefused();
         partKinds();
@@ -51,6 +52,17 @@ public final class TextEdgesTest {
                 is; same 0 = true; type 3; weights = 0 0; text 4; bring false = 1; is 4
                 """);
         CHECK.due("nor that one of the new one", Check.keyOf(one), "9 9 0 0");
+    }
+
+    private static void lastCalls() {
+        String parting = "part 9 1 2 false; set 2 0 7; set 1 4 5; text 9; keep 3\n";
+        run("the calls up to the 512th one are answered like the first ones", parting
+                + "bring false = 2; bring true = 1; same 3 = true; type 75 ! argument\n".repeat(125)
+                + "at 0 = 9; weights = 5 0 0; compare 3 = 0");
+        String growing = "part 1 0 0 false; part 2 1 1 false\n";
+        run("a text that becomes long and short again, over and over", growing
+                + "text 2 2; bring false = 8; bring true = 4; is 1 1 1 1; bring true = 4\n".repeat(46)
+                + "wipe; is");
     }
 
     private static void setRanges() {
